@@ -269,7 +269,7 @@ public final class LineageBench {
         needShelf(to);
         needKindSet(set);
         family.makeEmpty();
-        int clash = triples.join(set, family, 0);
+        int clash = triples.joinAll(set, family);
         if (clash == 0) {
             settleFamily(to);
         }
@@ -643,7 +643,7 @@ public final class LineageBench {
             return found;
         }
 
-        /** Of KINDS told as bits, all of which the TREE must have to show it. */
+        /** Of a TRIPLE told as bits; a TREE that has not all three KINDS shows nothing of them. */
         boolean shows(int pair, int third) {
             int three = pair | third;
             if ((allKinds() & three) != three) {
@@ -657,14 +657,21 @@ public final class LineageBench {
             return false;
         }
 
+        /** Of three KINDS told as bits, all of which the TREE has. */
         int whoIsNearer(int a, int b, int c) {
-            if (shows(a | b, c)) {
-                return 0;
+            for (int v = 0; v < nodes; v++) {
+                int met = cluster[v] & (a | b | c);
+                if (met == (a | b)) {
+                    return 0;
+                }
+                if (met == (a | c)) {
+                    return 1;
+                }
+                if (met == (b | c)) {
+                    return 2;
+                }
             }
-            if (shows(a | c, b)) {
-                return 1;
-            }
-            return shows(b | c, a) ? 2 : 3;
+            return 3;
         }
 
         /** Of a BINARY TREE the two CHILDREN of each NODE; both are NONE of a LEAF, neither is of another one. */
@@ -858,12 +865,9 @@ public final class LineageBench {
         private int compareTexts(Tree tree, int v, int w, int depth) {
             int kindV = tree.kind[v];
             int kindW = tree.kind[w];
-            if (kindV != NONE && kindW != NONE) {
-                return kindV - kindW;
-            }
             if (kindV != NONE || kindW != NONE) {
-                // an opening bracket is a lesser byte than a letter
-                return kindV != NONE ? 1 : -1;
+                // as an opening bracket is below all letters, so NONE is below all KINDS
+                return kindV - kindW;
             }
             if (depth > MOST_OPEN) {
                 return 0;
@@ -995,8 +999,13 @@ public final class LineageBench {
             return shown;
         }
 
-        /** Adds the CLUSTERS of JOINING a set: the CLASH, or 0. Each level has fewer KINDS than the one above. */
-        int join(int set, Family family, int depth) {
+        /** Adds the CLUSTERS of JOINING a set: the CLASH, or 0. */
+        int joinAll(int set, Family family) {
+            return joinSet(set, family, 0);
+        }
+
+        /** Each level has fewer KINDS than the one above, so the depth stays below their number. */
+        private int joinSet(int set, Family family, int depth) {
             family.addCluster(set);
             if (Integer.bitCount(set) < 2 || depth > KIND_COUNT) {
                 return 0;
@@ -1007,7 +1016,7 @@ public final class LineageBench {
                 if (part == set) {
                     return set;
                 }
-                int clash = join(part, family, depth + 1);
+                int clash = joinSet(part, family, depth + 1);
                 if (clash != 0) {
                     return clash;
                 }

@@ -112,6 +112,14 @@ public final class ClusterTest {
         Check.due("a star and 1", x.alike(6, 1), 2);
         Texts.read(x, 5, "((a,b),(c,e));");
         Check.due("three kinds in both", x.alike(5, 0), 1);
+        Texts.read(x, 5, "((b,c),(d,e));");
+        Check.due("all but a, of which none is alike", x.alike(5, 0), 0);
+        Texts.read(x, 5, "(b,(c,d),e);");
+        Check.due("all but a", x.alike(5, 0), 1);
+        Check.due("all but a", x.alike(6, 5), 2);
+        Texts.read(x, 5, "(a,(c,d),l);");
+        Check.due("all but b", x.alike(5, 0), 1);
+        Check.due("all but some", x.alike(6, 5), 2);
         Check.badState("not plain", () -> x.alike(0, 4));
         Check.badState("not plain", () -> x.alike(4, 0));
         Check.badState("none", () -> x.alike(0, 7));

@@ -48,6 +48,9 @@ public final class DistanceTest {
         Check.badArgument("above 100000", () -> x.distance(0, 1, 100001));
         Check.noIndex("kind 12, ahead of the rest", () -> x.distance(12, 12, -1));
         Check.noIndex("kind -1", () -> x.distance(0, -1, 1));
+        Check.noIndex("kind -1", () -> x.distance(-1, 0, 1));
+        Check.noIndex("kind 12", () -> x.distance(12, 0, 1));
+        Check.noIndex("kind 12", () -> x.distance(0, 12, 1));
         Check.due("all are 0 still", x.fourPoints(), true);
         x.distance(10, 11, 100000);
         Check.due("kinds that count", x.fourPoints(), false);
@@ -121,8 +124,26 @@ public final class DistanceTest {
         Check.due("nothing came", x.count(0), 0);
     }
 
-    /** Distances for which halves that are cut off would tell another tree: the two scores differ by a part of 1. */
+    private static void tiedBits(String bits, String want) {
+        int[] distances = new int[66];
+        for (int i = 0; i < distances.length; i++) {
+            distances[i] = bits.charAt(i) - '0';
+        }
+        joins(withDistances(12, distances), want);
+    }
+
+    /** Distances for which halves that are cut off behind five, six or seven bits would tell another tree. */
     private static void exactHalves() {
+        tiedBits("101100100000011111111001001110110111000101000001010011111011011100",
+                "((((((((f,l),c),a),(g,k)),j),i),b),((d,h),e));");
+        tiedBits("010101001110011100000100110100100111010111101001000000111100101000",
+                "(((((((((c,h),f),b),g),d),k),l),((a,j),e)),i);");
+        tiedBits("000010000001100101010100000010001010010101011100100110100110101000",
+                "(((((((((g,j),l),a),b),e),c),h),d),((f,k),i));");
+        randomDistances();
+    }
+
+    private static void randomDistances() {
         java.util.Random random = new java.util.Random(20261116);
         for (int round = 0; round < 300; round++) {
             LineageBench x = new LineageBench();

@@ -35,6 +35,11 @@ public final class LayingTest {
         lays("((a,b),(c,d));", "(((a,b),c),d);", 1, 3);
         lays("(((a,d),b),c);", "(((a,b),c),d);", 2, 7);
         lays("(a,".repeat(23) + "a" + ")".repeat(23) + ";", "(a,b);", 23, 0);
+        String chain = "(".repeat(11) + "a,b),c),d),e),f),g),h),i),j),k),l);";
+        lays(chain, chain, 0, 0);
+        lays("(a,l);", chain, 0, 10);
+        lays("((a,l),(a,l));", chain, 1, 20);
+        lays("((((((((((((a,b),c),d),e),f),g),h),i),j),k),l),(a,b));", chain, 1, 10);
         LineageBench x = new LineageBench();
         Texts.read(x, 4, "((a,b),(c,d));");
         Check.due("doublings in itself", x.doublings(4, 4), 0);

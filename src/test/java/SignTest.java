@@ -47,6 +47,8 @@ public final class SignTest {
         isPerfect(x, "abcde", "(((a,b),c),(d,e));");
         isPerfect(x, "acdf", "((a,c),d,f);");
         isPerfect(x, "l", "l;");
+        isPerfect(x, "a", "a;");
+        isPerfect(withSigns("ab"), "abc", "((a,b),c);");
         isPerfect(x, "gl", "(g,l);");
         isPerfect(new LineageBench(), "abcdefghijkl", "(a,b,c,d,e,f,g,h,i,j,k,l);");
     }
@@ -57,6 +59,8 @@ public final class SignTest {
         Check.due("nothing came", x.count(0), 0);
         Check.due("cd and bc, as b is away", x.perfect(Texts.set("acd"), 0), 1000 + 16 * 2 + 5);
         isPerfect(x, "bc", "(b,c);");
+        Check.due("the first two", withSigns("ab", "bc", "cd").perfect(4095, 0), 1001);
+        Check.due("the first and the last", withSigns("ab", "cd", "b", "ac").perfect(4095, 0), 1003);
         LineageBench y = new LineageBench();
         for (int i = 0; i < 14; i++) {
             y.sign(i % 3);
@@ -114,6 +118,12 @@ public final class SignTest {
         Check.due("kinds twice", changesOf("(((a,a),b),((a,c),(b,c)));", "012"), 4);
         Check.due("a chain", changesOf("(((((a,b),c),d),e),f);", "010101"), 3);
         LineageBench x = new LineageBench();
+        x.state(0, 1, 1);
+        Texts.read(x, 0, "(a,(b,(a,b)),(b,a));");
+        Check.due("many", x.changes(0, 0), 3);
+        Texts.read(x, 0, "(a,b);");
+        Check.due("few behind many", x.changes(0, 0), 1);
+        x.clear(0);
         Check.badState("none, ahead of the row", () -> x.changes(0, 8));
         Texts.read(x, 0, "(a,b);");
         Check.badArgument("row 8", () -> x.changes(0, 8));

@@ -26,6 +26,8 @@ public final class TripleTest {
         Check.badArgument("two are one", () -> x.triple(1, 0, 1));
         Check.badArgument("two are one", () -> x.triple(1, 1, 0));
         Check.noIndex("no kind, ahead of two are one", () -> x.triple(12, 12, 0));
+        Check.noIndex("no kind", () -> x.triple(-1, 0, 1));
+        Check.noIndex("no kind", () -> x.triple(12, 0, 1));
         Check.noIndex("no kind", () -> x.triple(0, -1, 1));
         Check.noIndex("no kind", () -> x.triple(0, 0, 12));
         Check.due("count(1)", x.count(1), 80);
@@ -47,6 +49,7 @@ public final class TripleTest {
         builds(x, "abd", "(a,b,d);");
         builds(x, "bcd", "((b,c),d);");
         builds(x, "l", "l;");
+        builds(x, "a", "a;");
         builds(x, "al", "(a,l);");
         builds(x, "abcdefghijkl", "(((a,b),c),d,e,f,g,h,i,j,k,l);");
         LineageBench y = withTriples("abc", "abc", "cde", "fga", "hij");
