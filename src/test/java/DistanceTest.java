@@ -10,20 +10,6 @@ public final class DistanceTest {
         Check.close();
     }
 
-    /** The distances of 0 to 1, 0 to 2, 1 to 2, 0 to 3, and so on. */
-    private static LineageBench withDistances(int n, int... distances) {
-        LineageBench x = new LineageBench();
-        x.kinds(n);
-        int at = 0;
-        for (int b = 1; b < n; b++) {
-            for (int a = 0; a < b; a++) {
-                x.distance(a, b, distances[at]);
-                at++;
-            }
-        }
-        return x;
-    }
-
     private static void counting() {
         LineageBench x = new LineageBench();
         for (int bad : new int[] {1, 13, 0, -1, Integer.MAX_VALUE, Integer.MIN_VALUE}) {
@@ -67,16 +53,17 @@ public final class DistanceTest {
     }
 
     private static void fourPoints() {
-        Check.due("two kinds", withDistances(2, 77).fourPoints(), true);
-        Check.due("a tree's", withDistances(4, 3, 9, 10, 10, 11, 7).fourPoints(), true);
-        Check.due("not a tree's", withDistances(4, 3, 9, 10, 10, 11, 25).fourPoints(), false);
-        Check.due("a way round that is longer", withDistances(3, 2, 6, 7).fourPoints(), true);
-        Check.due("as long", withDistances(3, 2, 6, 8).fourPoints(), true);
-        Check.due("a way round that is shorter", withDistances(3, 2, 6, 9).fourPoints(), false);
-        Check.due("two at one place", withDistances(3, 0, 6, 6).fourPoints(), true);
-        Check.due("two at one place, unlike", withDistances(3, 0, 6, 7).fourPoints(), false);
-        Check.due("the two lesser ones equal", withDistances(4, 5, 5, 5, 6, 5, 5).fourPoints(), false);
-        Check.due("the greatest", withDistances(4, 100000, 100000, 100000, 100000, 100000, 100000).fourPoints(), true);
+        Check.due("two kinds", Benches.withDistances(2, 77).fourPoints(), true);
+        Check.due("a tree's", Benches.withDistances(4, 3, 9, 10, 10, 11, 7).fourPoints(), true);
+        Check.due("not a tree's", Benches.withDistances(4, 3, 9, 10, 10, 11, 25).fourPoints(), false);
+        Check.due("a way round that is longer", Benches.withDistances(3, 2, 6, 7).fourPoints(), true);
+        Check.due("as long", Benches.withDistances(3, 2, 6, 8).fourPoints(), true);
+        Check.due("a way round that is shorter", Benches.withDistances(3, 2, 6, 9).fourPoints(), false);
+        Check.due("two at one place", Benches.withDistances(3, 0, 6, 6).fourPoints(), true);
+        Check.due("two at one place, unlike", Benches.withDistances(3, 0, 6, 7).fourPoints(), false);
+        Check.due("the two lesser ones equal", Benches.withDistances(4, 5, 5, 5, 6, 5, 5).fourPoints(), false);
+        int most = 100000;
+        Check.due("the greatest", Benches.withDistances(4, most, most, most, most, most, most).fourPoints(), true);
     }
 
     private static void tells(LineageBench x, String want) {
@@ -85,18 +72,18 @@ public final class DistanceTest {
     }
 
     private static void clocks() {
-        tells(withDistances(2, 9), "(a,b);");
-        tells(withDistances(2, 0), "(a,b);");
-        tells(withDistances(3, 2, 6, 6), "((a,b),c);");
-        tells(withDistances(3, 6, 6, 6), "(a,b,c);");
-        tells(withDistances(3, 6, 2, 6), "((a,c),b);");
-        tells(withDistances(3, 0, 100000, 100000), "((a,b),c);");
-        tells(withDistances(4, 2, 6, 6, 6, 6, 4), "((a,b),(c,d));");
-        tells(withDistances(4, 2, 2, 2, 6, 6, 6), "((a,b,c),d);");
-        tells(withDistances(5, 0, 0, 0, 6, 6, 6, 9, 9, 9, 9), "(((a,b,c),d),e);");
-        Check.due("the greatest by itself", withDistances(3, 2, 6, 7).clock(0), false);
-        Check.due("the least ones equal", withDistances(3, 2, 2, 3).clock(0), false);
-        LineageBench x = withDistances(3, 2, 6, 7);
+        tells(Benches.withDistances(2, 9), "(a,b);");
+        tells(Benches.withDistances(2, 0), "(a,b);");
+        tells(Benches.withDistances(3, 2, 6, 6), "((a,b),c);");
+        tells(Benches.withDistances(3, 6, 6, 6), "(a,b,c);");
+        tells(Benches.withDistances(3, 6, 2, 6), "((a,c),b);");
+        tells(Benches.withDistances(3, 0, 100000, 100000), "((a,b),c);");
+        tells(Benches.withDistances(4, 2, 6, 6, 6, 6, 4), "((a,b),(c,d));");
+        tells(Benches.withDistances(4, 2, 2, 2, 6, 6, 6), "((a,b,c),d);");
+        tells(Benches.withDistances(5, 0, 0, 0, 6, 6, 6, 9, 9, 9, 9), "(((a,b,c),d),e);");
+        Check.due("the greatest by itself", Benches.withDistances(3, 2, 6, 7).clock(0), false);
+        Check.due("the least ones equal", Benches.withDistances(3, 2, 2, 3).clock(0), false);
+        LineageBench x = Benches.withDistances(3, 2, 6, 7);
         Texts.read(x, 0, "(k,l);");
         x.clock(0);
         Check.due("nothing comes", Texts.written(x, 0), "(k,l);");
@@ -110,12 +97,12 @@ public final class DistanceTest {
     }
 
     private static void nearestOnes() {
-        joins(withDistances(2, 9), "(a,b);");
-        joins(withDistances(3, 9, 1, 1), "((a,b),c);");
-        joins(withDistances(4, 3, 9, 10, 10, 11, 7), "(((a,b),c),d);");
-        joins(withDistances(4, 10, 3, 9, 9, 7, 11), "(((a,c),b),d);");
+        joins(Benches.withDistances(2, 9), "(a,b);");
+        joins(Benches.withDistances(3, 9, 1, 1), "((a,b),c);");
+        joins(Benches.withDistances(4, 3, 9, 10, 10, 11, 7), "(((a,b),c),d);");
+        joins(Benches.withDistances(4, 10, 3, 9, 9, 7, 11), "(((a,c),b),d);");
         // five kinds of a known tree ((a,b),c,(d,e)), whose sums tell a and b first
-        joins(withDistances(5, 5, 9, 10, 9, 10, 8, 8, 9, 7, 3), "((((a,b),c),d),e);");
+        joins(Benches.withDistances(5, 5, 9, 10, 9, 10, 8, 8, 9, 7, 3), "((((a,b),c),d),e);");
         LineageBench star = new LineageBench();
         joins(star, "(".repeat(11) + "a,b),c),d),e),f),g),h),i),j),k),l);");
         LineageBench x = new LineageBench();
@@ -129,7 +116,7 @@ public final class DistanceTest {
         for (int i = 0; i < distances.length; i++) {
             distances[i] = bits.charAt(i) - '0';
         }
-        joins(withDistances(12, distances), want);
+        joins(Benches.withDistances(12, distances), want);
     }
 
     /** Distances for which halves that are cut off behind five, six or seven bits would tell another tree. */

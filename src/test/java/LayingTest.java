@@ -162,8 +162,9 @@ public final class LayingTest {
     }
 
     private static void allRowsOfSmallTrees() {
-        String[] texts = {"((a,b),((c,d),(e,f)));", "(((a,b),(a,b),c),(d,e),f);", "((((a,b),c),d),((e,f),(g,h)),(a,b));",
-            "(((a,b),((c,d),e)),(f,((g,h),(i,j))));", "((a,(b,(c,d))),(a,(b,(c,d))));"};
+        String[] texts = {"((a,b),((c,d),(e,f)));", "(((a,b),(a,b),c),(d,e),f);",
+            "((((a,b),c),d),((e,f),(g,h)),(a,b));", "(((a,b),((c,d),e)),(f,((g,h),(i,j))));",
+            "((a,(b,(c,d))),(a,(b,(c,d))));"};
         for (String text : texts) {
             List<ReferenceBench.Node> open = new ArrayList<>();
             open.add(ReferenceBench.parse(text));

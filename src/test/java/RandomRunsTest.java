@@ -9,6 +9,8 @@ import java.util.Random;
 /** All promises: random runs of up to 512 calls, each answer against that of ReferenceBench. */
 public final class RandomRunsTest {
     private static final int RUNS = 1500;
+    /** What later calls answer is free. */
+    private static final int MOST_CALLS = 512;
     private static final int[] ODD = {-1, 8, 12, 4096, 256, 13, Integer.MIN_VALUE, Integer.MAX_VALUE, 1 << 12, -4095};
 
     private final Random random;
@@ -40,7 +42,7 @@ public final class RandomRunsTest {
     }
 
     private void run(int number) {
-        int length = 40 + random.nextInt(460);
+        int length = 40 + random.nextInt(360);
         while (made < length && same) {
             int choice = random.nextInt(22);
             if (choice < 6) {
@@ -63,7 +65,8 @@ public final class RandomRunsTest {
         }
         for (int s = 0; s < 8 && same; s++) {
             both("write", s);
-            for (int i = 0; i < x.count(5) && same; i++) {
+            both("count", 5);
+            for (int i = 0; i < y.count(5) && same; i++) {
                 both("written", i);
             }
         }
@@ -206,7 +209,7 @@ public final class RandomRunsTest {
             both("alike", 6, s);
             both("shown", s);
             both("least", s, fewBits());
-            both("has", 7, same ? x.least(s, 3) : 0);
+            both("has", 7, same && made < MOST_CALLS ? y.least(s, 3) : 0);
             both("nearer", s, random.nextInt(kinds), random.nextInt(kinds), random.nextInt(kinds));
         }
         both("cut", random.nextInt(trees), random.nextInt(4096), random.nextInt(8));
@@ -338,7 +341,7 @@ public final class RandomRunsTest {
     }
 
     private void both(String name, int... args) {
-        if (!same) {
+        if (!same || made == MOST_CALLS) {
             return;
         }
         made++;

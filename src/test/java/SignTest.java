@@ -10,14 +10,6 @@ public final class SignTest {
         Check.close();
     }
 
-    private static LineageBench withSigns(String... sets) {
-        LineageBench x = new LineageBench();
-        for (String set : sets) {
-            x.sign(Texts.set(set));
-        }
-        return x;
-    }
-
     private static void adding() {
         LineageBench x = new LineageBench();
         Check.badArgument("sign(-1)", () -> x.sign(-1));
@@ -42,25 +34,25 @@ public final class SignTest {
     }
 
     private static void perfectTrees() {
-        LineageBench x = withSigns("abc", "ab", "de", "", "abcdefghijkl", "a", "abc");
+        LineageBench x = Benches.withSigns("abc", "ab", "de", "", "abcdefghijkl", "a", "abc");
         isPerfect(x, "abcdef", "(((a,b),c),(d,e),f);");
         isPerfect(x, "abcde", "(((a,b),c),(d,e));");
         isPerfect(x, "acdf", "((a,c),d,f);");
         isPerfect(x, "l", "l;");
         isPerfect(x, "a", "a;");
-        isPerfect(withSigns("ab"), "abc", "((a,b),c);");
+        isPerfect(Benches.withSigns("ab"), "abc", "((a,b),c);");
         isPerfect(x, "gl", "(g,l);");
         isPerfect(new LineageBench(), "abcdefghijkl", "(a,b,c,d,e,f,g,h,i,j,k,l);");
     }
 
     private static void quarrels() {
-        LineageBench x = withSigns("l", "ab", "cd", "bc", "abcd", "ad");
+        LineageBench x = Benches.withSigns("l", "ab", "cd", "bc", "abcd", "ad");
         Check.due("ab and bc", x.perfect(Texts.set("abcd"), 0), 1000 + 16 + 3);
         Check.due("nothing came", x.count(0), 0);
         Check.due("cd and bc, as b is away", x.perfect(Texts.set("acd"), 0), 1000 + 16 * 2 + 5);
         isPerfect(x, "bc", "(b,c);");
-        Check.due("the first two", withSigns("ab", "bc", "cd").perfect(4095, 0), 1001);
-        Check.due("the first and the last", withSigns("ab", "cd", "b", "ac").perfect(4095, 0), 1003);
+        Check.due("the first two", Benches.withSigns("ab", "bc", "cd").perfect(4095, 0), 1001);
+        Check.due("the first and the last", Benches.withSigns("ab", "cd", "b", "ac").perfect(4095, 0), 1003);
         LineageBench y = new LineageBench();
         for (int i = 0; i < 14; i++) {
             y.sign(i % 3);
@@ -134,9 +126,8 @@ public final class SignTest {
 
     /** The tree ((a,b),(c,d,e)) against a walk over all ways to tell its three nodes states. */
     private static void allTellingsOfSmallTrees() {
-        LineageBench x = new LineageBench();
-        Texts.read(x, 0, "((a,b),(c,d,e));");
         for (int code = 0; code < 1024; code += 7) {
+            LineageBench x = Benches.withTrees("((a,b),(c,d,e));");
             int[] s = new int[5];
             for (int k = 0; k < 5; k++) {
                 s[k] = code >> 2 * k & 3;

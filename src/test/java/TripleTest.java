@@ -8,14 +8,6 @@ public final class TripleTest {
         Check.close();
     }
 
-    private static LineageBench withTriples(String... texts) {
-        LineageBench x = new LineageBench();
-        for (String t : texts) {
-            x.triple(t.charAt(0) - 'a', t.charAt(1) - 'a', t.charAt(2) - 'a');
-        }
-        return x;
-    }
-
     private static void adding() {
         LineageBench x = new LineageBench();
         for (int i = 1; i <= 80; i++) {
@@ -43,7 +35,7 @@ public final class TripleTest {
     }
 
     private static void joining() {
-        LineageBench x = withTriples("abc", "bcd");
+        LineageBench x = Benches.withTriples("abc", "bcd");
         builds(x, "abcd", "(((a,b),c),d);");
         builds(x, "abc", "((a,b),c);");
         builds(x, "abd", "(a,b,d);");
@@ -52,7 +44,7 @@ public final class TripleTest {
         builds(x, "a", "a;");
         builds(x, "al", "(a,l);");
         builds(x, "abcdefghijkl", "(((a,b),c),d,e,f,g,h,i,j,k,l);");
-        LineageBench y = withTriples("abc", "abc", "cde", "fga", "hij");
+        LineageBench y = Benches.withTriples("abc", "abc", "cde", "fga", "hij");
         builds(y, "abcdefgh", "((a,b),(c,d),(f,g),e,h);");
         LineageBench z = new LineageBench();
         builds(z, "abcdefghijkl", "(a,b,c,d,e,f,g,h,i,j,k,l);");
@@ -67,19 +59,19 @@ public final class TripleTest {
     }
 
     private static void clashes() {
-        LineageBench x = withTriples("abc", "bcd", "cda");
+        LineageBench x = Benches.withTriples("abc", "bcd", "cda");
         Check.due("build abcd", x.build(15, 3), 15);
         Check.due("nothing came", x.count(0), 0);
         builds(x, "abc", "((a,b),c);");
-        LineageBench y = withTriples("abc", "bca");
+        LineageBench y = Benches.withTriples("abc", "bca");
         Check.due("build abc", y.build(7, 0), 7);
         Check.due("build ab", y.build(3, 0), 0);
         // below the root, the part with the least kind is met first, and its own parts ahead of the next one
-        LineageBench z = withTriples("ghi", "hig", "def", "efd", "abd", "bcd", "deg", "efg", "ghd", "hid");
+        LineageBench z = Benches.withTriples("ghi", "hig", "def", "efd", "abd", "bcd", "deg", "efg", "ghd", "hid");
         Check.due("build abcdefghi", z.build(511, 0), Texts.set("def"));
         Check.due("build abcghi", z.build(Texts.set("abcghi"), 0), Texts.set("ghi"));
-        LineageBench w = withTriples("jkl", "klj", "jka", "kla", "abj", "acj", "adj", "aej", "bcd", "cdb", "bce", "cde",
-                "bca", "cda");
+        LineageBench w = Benches.withTriples("jkl", "klj", "jka", "kla", "abj", "acj", "adj", "aej", "bcd", "cdb",
+                "bce", "cde", "bca", "cda");
         Check.due("a deep clash ahead of a shallow one", w.build(Texts.set("abcdejkl"), 0), Texts.set("bcd"));
         Check.due("a shallow one", w.build(Texts.set("abcejkl"), 0), Texts.set("jkl"));
         Check.badArgument("set 0", () -> w.build(0, 0));
@@ -94,7 +86,7 @@ public final class TripleTest {
     }
 
     private static void showing() {
-        LineageBench x = withTriples("abc", "bac", "abc", "acb", "bca", "abl", "cda", "cdb", "abd");
+        LineageBench x = Benches.withTriples("abc", "bac", "abc", "acb", "bca", "abl", "cda", "cdb", "abd");
         Texts.read(x, 0, "((a,b),c);");
         Check.due("shown", x.shown(0), 3);
         Texts.read(x, 1, "((a,b),(c,d));");

@@ -7,15 +7,25 @@ final class Check {
 
     private static int wrong = 0;
     private static int checked = 0;
+    /** What the checks are about just now; it stands ahead of what is printed. */
+    private static String about = "";
 
     private Check() {
+    }
+
+    static void about(String words) {
+        about = words;
+    }
+
+    static int checked() {
+        return checked;
     }
 
     static void due(String what, long got, long want) {
         checked++;
         if (got != want) {
             wrong++;
-            System.out.println(what + " answered " + got + ", due is " + want);
+            System.out.println(about + what + " answered " + got + ", due is " + want);
         }
     }
 
@@ -27,7 +37,7 @@ final class Check {
         checked++;
         if (!got.equals(want)) {
             wrong++;
-            System.out.println(what + " answered " + got + ", due is " + want);
+            System.out.println(about + what + " answered " + got + ", due is " + want);
         }
     }
 
