@@ -604,27 +604,19 @@ public final class SignSentencesTest {
         Check.due("0 and 3 are states", x.changes(0, 0), 1);
     }
 
-    private static int changesOf(String tree, String states) {
-        LineageBench x = Benches.withTrees(tree);
-        for (int k = 0; k < states.length(); k++) {
-            x.state(7, k, states.charAt(k) - '0');
-        }
-        return x.changes(0, 7);
-    }
-
     private static void leastChanges() {
-        Check.due("one leaf", changesOf("a;", "3"), 0);
-        Check.due("two leaves, one state", changesOf("(a,b);", "22"), 0);
-        Check.due("two leaves, two states", changesOf("(a,b);", "12"), 1);
-        Check.due("all unlike, a star", changesOf("(a,b,c,d);", "0123"), 3);
-        Check.due("three of each", changesOf(ALL, "000111222333"), 9);
-        Check.due("the state of most", changesOf("(a,b,c,d,e);", "01112"), 2);
-        Check.due("by sides", changesOf("((a,b),(c,d));", "1122"), 1);
-        Check.due("across", changesOf("((a,b),(c,d));", "1212"), 2);
+        Check.due("one leaf", Benches.changesOf("a;", "3"), 0);
+        Check.due("two leaves, one state", Benches.changesOf("(a,b);", "22"), 0);
+        Check.due("two leaves, two states", Benches.changesOf("(a,b);", "12"), 1);
+        Check.due("all unlike, a star", Benches.changesOf("(a,b,c,d);", "0123"), 3);
+        Check.due("three of each", Benches.changesOf(ALL, "000111222333"), 9);
+        Check.due("the state of most", Benches.changesOf("(a,b,c,d,e);", "01112"), 2);
+        Check.due("by sides", Benches.changesOf("((a,b),(c,d));", "1122"), 1);
+        Check.due("across", Benches.changesOf("((a,b),(c,d));", "1212"), 2);
         // a state that is not the one of most of its children
-        Check.due("from above", changesOf("((a,b,c),d,e,f);", "112000"), 2);
-        Check.due("a comb", changesOf(COMB, "010101010101"), 6);
-        Check.due("most changes of 24 leaves", changesOf("(" + "a,b,c,d,".repeat(5) + "a,b,c,d);", "0123"), 18);
+        Check.due("from above", Benches.changesOf("((a,b,c),d,e,f);", "112000"), 2);
+        Check.due("a comb", Benches.changesOf(COMB, "010101010101"), 6);
+        Check.due("most changes of 24 leaves", Benches.changesOf("(" + "a,b,c,d,".repeat(5) + "a,b,c,d);", "0123"), 18);
     }
 
     private static void changesOfNoRow() {
@@ -642,11 +634,11 @@ public final class SignSentencesTest {
     }
 
     private static void anyTree() {
-        Check.due("not plain", changesOf("((a,a),(a,b));", "01"), 1);
-        Check.due("not plain, all one kind", changesOf("(a,(a,(a,a)));", "2"), 0);
-        Check.due("not binary", changesOf("((a,b,c),(a,b,c),d);", "0120"), 4);
-        Check.due("one leaf", changesOf("l;", "000000000003"), 0);
-        Check.due("the deepest", changesOf("(a,(b,".repeat(11) + "(a,b)" + "))".repeat(11) + ";", "01"), 12);
+        Check.due("not plain", Benches.changesOf("((a,a),(a,b));", "01"), 1);
+        Check.due("not plain, all one kind", Benches.changesOf("(a,(a,(a,a)));", "2"), 0);
+        Check.due("not binary", Benches.changesOf("((a,b,c),(a,b,c),d);", "0120"), 4);
+        Check.due("one leaf", Benches.changesOf("l;", "000000000003"), 0);
+        Check.due("the deepest", Benches.changesOf("(a,(b,".repeat(11) + "(a,b)" + "))".repeat(11) + ";", "01"), 12);
         LineageBench x = new LineageBench();
         Check.badState("none", () -> x.changes(0, 0));
     }

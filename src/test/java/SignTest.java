@@ -91,24 +91,15 @@ public final class SignTest {
         Check.due("told anew", x.changes(0, 7), 0);
     }
 
-    private static int changesOf(String tree, String states) {
-        LineageBench x = new LineageBench();
-        Texts.read(x, 0, tree);
-        for (int k = 0; k < states.length(); k++) {
-            x.state(3, k, states.charAt(k) - '0');
-        }
-        return x.changes(0, 3);
-    }
-
     private static void changing() {
-        Check.due("one leaf", changesOf("b;", "03"), 0);
-        Check.due("two sides", changesOf("((a,b),(c,d));", "0011"), 1);
-        Check.due("crossed", changesOf("((a,b),(c,d));", "0101"), 2);
-        Check.due("a star", changesOf("(a,b,c,d,e,f);", "011222"), 3);
-        Check.due("a star of four", changesOf("(a,b,c,d,e,f,g,h);", "00112233"), 6);
-        Check.due("a node of three", changesOf("((a,b,c),(d,e),f);", "112113"), 2);
-        Check.due("kinds twice", changesOf("(((a,a),b),((a,c),(b,c)));", "012"), 4);
-        Check.due("a chain", changesOf("(((((a,b),c),d),e),f);", "010101"), 3);
+        Check.due("one leaf", Benches.changesOf("b;", "03"), 0);
+        Check.due("two sides", Benches.changesOf("((a,b),(c,d));", "0011"), 1);
+        Check.due("crossed", Benches.changesOf("((a,b),(c,d));", "0101"), 2);
+        Check.due("a star", Benches.changesOf("(a,b,c,d,e,f);", "011222"), 3);
+        Check.due("a star of four", Benches.changesOf("(a,b,c,d,e,f,g,h);", "00112233"), 6);
+        Check.due("a node of three", Benches.changesOf("((a,b,c),(d,e),f);", "112113"), 2);
+        Check.due("kinds twice", Benches.changesOf("(((a,a),b),((a,c),(b,c)));", "012"), 4);
+        Check.due("a chain", Benches.changesOf("(((((a,b),c),d),e),f);", "010101"), 3);
         LineageBench x = new LineageBench();
         x.state(0, 1, 1);
         Texts.read(x, 0, "(a,(b,(a,b)),(b,a));");

@@ -81,21 +81,6 @@ public final class TextSentencesTest {
 
     // ---- helpers
 
-    private static void good(String text, int leaves) {
-        LineageBench x = new LineageBench();
-        Check.due("read of " + text, Texts.read(x, 0, text), leaves);
-        Check.due("fault(0) of " + text, x.fault(0), 0);
-        Check.due("fault(1) of " + text, x.fault(1), -1);
-    }
-
-    private static void bad(String text, int fault, int place) {
-        LineageBench x = new LineageBench();
-        Texts.lay(x, text);
-        Check.badArgument("read of " + text, () -> x.read(0));
-        Check.due("fault(0) of " + text, x.fault(0), fault);
-        Check.due("fault(1) of " + text, x.fault(1), place);
-    }
-
     private static void form(String text, String want) {
         Check.due("form of " + text, Texts.written(Benches.withTrees(text), 0), want);
     }
@@ -121,10 +106,10 @@ public final class TextSentencesTest {
         Check.due("a is kind 0", x.look(0, 2), 1);
         Check.due("l is kind 11", x.look(1, 2), 1 << 11);
         Check.due("all", x.look(2, 2), 4095);
-        bad("`;", 1, 0);
-        bad("m;", 1, 0);
-        bad("A;", 1, 0);
-        bad("L;", 1, 0);
+        Texts.bad("`;", 1, 0);
+        Texts.bad("m;", 1, 0);
+        Texts.bad("A;", 1, 0);
+        Texts.bad("L;", 1, 0);
         x.state(0, 0, 1);
         x.state(0, 11, 1);
         Check.due("kinds 0 and 11 have states", x.changes(2, 0), 2);
@@ -146,15 +131,15 @@ public final class TextSentencesTest {
         Check.due("two children", Benches.withTrees("(a,b);").look(0, 1), 3);
         Check.due("24 children", Benches.withTrees(star(24)).look(0, 1), 25);
         Check.due("most nodes", Benches.withTrees(chain(23)).look(0, 1), 47);
-        bad("(a);", 1, 2);
-        bad("();", 1, 1);
+        Texts.bad("(a);", 1, 2);
+        Texts.bad("();", 1, 1);
     }
 
     private static void mostLeaves() {
-        good(star(24), 24);
-        good(chain(23), 24);
-        good("((a,b)" + ",(a,b)".repeat(11) + ");", 24);
-        bad(star(25), 2, 49);
+        Texts.good(star(24), 24);
+        Texts.good(chain(23), 24);
+        Texts.good("((a,b)" + ",(a,b)".repeat(11) + ");", 24);
+        Texts.bad(star(25), 2, 49);
     }
 
     private static void plainOrNot() {
@@ -210,57 +195,57 @@ public final class TextSentencesTest {
     private static void fullTape() {
         LineageBench x = Benches.withFullTape();
         Check.due("bytes of a full tape", x.count(4), 400);
-        good(" ".repeat(398) + "a;", 1);
-        good("(" + " ".repeat(394) + "a,b);", 2);
+        Texts.good(" ".repeat(398) + "a;", 1);
+        Texts.good("(" + " ".repeat(394) + "a,b);", 2);
         Check.due("20 more", x.feed(0, 0, 0, 0, 0), -1);
         Check.due("bytes still", x.count(4), 400);
     }
 
     private static void nothingBehind() {
-        good("a;", 1);
-        bad("a;a", 1, 2);
-        bad("a;;", 1, 2);
-        bad("a;(a,b);", 1, 2);
-        bad("(a,b);\0", 1, 6);
-        bad("a", 1, 1);
-        bad(";", 1, 0);
+        Texts.good("a;", 1);
+        Texts.bad("a;a", 1, 2);
+        Texts.bad("a;;", 1, 2);
+        Texts.bad("a;(a,b);", 1, 2);
+        Texts.bad("(a,b);\0", 1, 6);
+        Texts.bad("a", 1, 1);
+        Texts.bad(";", 1, 0);
     }
 
     private static void twoAtLeast() {
-        bad("()", 1, 1);
-        bad("(a)", 1, 2);
-        bad("((a,b))", 1, 6);
-        bad("(a,)", 1, 3);
-        bad("(,a)", 1, 1);
-        bad("(a,,b)", 1, 3);
-        bad("(ab)", 1, 2);
-        bad("a,b;", 1, 1);
-        good("(a,b);", 2);
-        good("(a,b,c);", 3);
-        good("((a,b),(c,d));", 4);
+        Texts.bad("()", 1, 1);
+        Texts.bad("(a)", 1, 2);
+        Texts.bad("((a,b))", 1, 6);
+        Texts.bad("(a,)", 1, 3);
+        Texts.bad("(,a)", 1, 1);
+        Texts.bad("(a,,b)", 1, 3);
+        Texts.bad("(ab)", 1, 2);
+        Texts.bad("a,b;", 1, 1);
+        Texts.good("(a,b);", 2);
+        Texts.good("(a,b,c);", 3);
+        Texts.good("((a,b),(c,d));", 4);
     }
 
     private static void blanksEverywhere() {
         String text = "((a,b),c);";
-        good(" " + text.replaceAll("(.)", "$1  "), 3);
+        Texts.good(" " + text.replaceAll("(.)", "$1  "), 3);
         for (int at = 0; at <= text.length(); at++) {
             String ahead = text.substring(0, at);
             String behind = text.substring(at);
-            good(ahead + " " + behind, 3);
+            Texts.good(ahead + " " + behind, 3);
             for (int value : new int[] {0, 9, 10, 11, 12, 13, 31, 33, 95, 160}) {
-                bad(ahead + (char) value + behind, 1, at);
+                Texts.bad(ahead + (char) value + behind, 1, at);
             }
         }
     }
 
     private static void firstOfSeveralFaults() {
-        bad("a?;!", 1, 1);
-        bad("(" + "a,".repeat(24) + "a?", 2, 49);
-        bad("(" + "a,".repeat(23) + "?,a,a,a", 1, 47);
-        bad("(".repeat(24) + "?", 2, 23);
-        bad("(".repeat(22) + "?((", 1, 22);
-        bad("(" + "a,".repeat(24) + "a," + "(".repeat(24), 2, 49);
-        bad("(".repeat(24) + "a,".repeat(25), 2, 23);
+        Texts.bad("a?;!", 1, 1);
+        Texts.bad("(" + "a,".repeat(24) + "a?", 2, 49);
+        Texts.bad("(" + "a,".repeat(23) + "?,a,a,a", 1, 47);
+        Texts.bad("(".repeat(24) + "?", 2, 23);
+        Texts.bad("(".repeat(22) + "?((", 1, 22);
+        Texts.bad("(" + "a,".repeat(24) + "a," + "(".repeat(24), 2, 49);
+        Texts.bad("(".repeat(24) + "a,".repeat(25), 2, 23);
     }
 
     /** What may stand next behind each way of standing in a text; all other bytes are a fault there. */
@@ -284,53 +269,53 @@ public final class TextSentencesTest {
         String text = ahead + next;
         boolean due = goesOn.indexOf(next) >= 0;
         if (due && text.indexOf(';') >= 0) {
-            good(text, text.startsWith("(") ? text.length() - text.replaceAll("[a-l]", "").length() : 1);
+            Texts.good(text, text.startsWith("(") ? text.length() - text.replaceAll("[a-l]", "").length() : 1);
         } else {
-            bad(text, 1, due ? text.length() : ahead.length());
+            Texts.bad(text, 1, due ? text.length() : ahead.length());
         }
     }
 
     private static void moreMustCome() {
-        bad("", 1, 0);
-        bad(" ", 1, 1);
-        bad("(", 1, 1);
-        bad("(a", 1, 2);
-        bad("(a,", 1, 3);
-        bad("(a,b", 1, 4);
-        bad("(a,b)", 1, 5);
-        bad("(a,b)   ", 1, 8);
-        bad(" ".repeat(400), 1, 400);
-        bad("a" + " ".repeat(399), 1, 400);
-        bad("(".repeat(23), 1, 23);
+        Texts.bad("", 1, 0);
+        Texts.bad(" ", 1, 1);
+        Texts.bad("(", 1, 1);
+        Texts.bad("(a", 1, 2);
+        Texts.bad("(a,", 1, 3);
+        Texts.bad("(a,b", 1, 4);
+        Texts.bad("(a,b)", 1, 5);
+        Texts.bad("(a,b)   ", 1, 8);
+        Texts.bad(" ".repeat(400), 1, 400);
+        Texts.bad("a" + " ".repeat(399), 1, 400);
+        Texts.bad("(".repeat(23), 1, 23);
     }
 
     private static void leaf25() {
-        good("(" + " a ,".repeat(23) + "a);", 24);
-        bad("(" + " a ,".repeat(24) + "a);", 2, 97);
-        bad("(" + "(a,b),".repeat(12) + "l);", 2, 73);
-        bad("(" + "(a,b),".repeat(12) + "(((l", 2, 76);
-        bad("(".repeat(23) + "a,".repeat(24) + "a", 2, 71);
+        Texts.good("(" + " a ,".repeat(23) + "a);", 24);
+        Texts.bad("(" + " a ,".repeat(24) + "a);", 2, 97);
+        Texts.bad("(" + "(a,b),".repeat(12) + "l);", 2, 73);
+        Texts.bad("(" + "(a,b),".repeat(12) + "(((l", 2, 76);
+        Texts.bad("(".repeat(23) + "a,".repeat(24) + "a", 2, 71);
         // no leaf can stand there, whatever its number
-        bad("(" + "a,".repeat(23) + "aa", 1, 48);
-        bad(star(24) + "a", 1, 50);
+        Texts.bad("(" + "a,".repeat(23) + "aa", 1, 48);
+        Texts.bad(star(24) + "a", 1, 50);
         // the 25th that is no leaf
-        bad("(" + "a,".repeat(24) + "m", 1, 49);
-        bad("(" + "a,".repeat(24) + "(", 1, 50);
+        Texts.bad("(" + "a,".repeat(24) + "m", 1, 49);
+        Texts.bad("(" + "a,".repeat(24) + "(", 1, 50);
     }
 
     private static void opening24() {
-        good("(".repeat(23) + "a" + ",b)".repeat(23) + ";", 24);
-        bad("(".repeat(24), 2, 23);
-        bad(" (".repeat(24), 2, 47);
-        bad("(".repeat(23) + "a,(", 2, 25);
-        bad("(a,".repeat(23) + "(", 2, 69);
+        Texts.good("(".repeat(23) + "a" + ",b)".repeat(23) + ";", 24);
+        Texts.bad("(".repeat(24), 2, 23);
+        Texts.bad(" (".repeat(24), 2, 47);
+        Texts.bad("(".repeat(23) + "a,(", 2, 25);
+        Texts.bad("(a,".repeat(23) + "(", 2, 69);
         // one that is closed is not open any more
-        good("((a,b),".repeat(2) + "(a,".repeat(19) + "b" + ")".repeat(21) + ";", 24);
-        bad("((a,b)," + "(".repeat(22) + "a,b),(", 1, 35);
-        bad("((a,b)," + "(".repeat(23), 2, 29);
+        Texts.good("((a,b),".repeat(2) + "(a,".repeat(19) + "b" + ")".repeat(21) + ";", 24);
+        Texts.bad("((a,b)," + "(".repeat(22) + "a,b),(", 1, 35);
+        Texts.bad("((a,b)," + "(".repeat(23), 2, 29);
         // no ( can stand there, however many are open
-        bad("(".repeat(23) + "a(", 1, 24);
-        bad("(".repeat(23) + "a,b(", 1, 26);
+        Texts.bad("(".repeat(23) + "a(", 1, 24);
+        Texts.bad("(".repeat(23) + "a,b(", 1, 26);
     }
 
     private static void writtenWithoutBlanks() {
@@ -494,9 +479,9 @@ public final class TextSentencesTest {
     }
 
     private static void readLeaves() {
-        good("a;", 1);
-        good("(a,a);", 2);
-        good(star(24), 24);
+        Texts.good("a;", 1);
+        Texts.good("(a,a);", 2);
+        Texts.good(star(24), 24);
         LineageBench x = new LineageBench();
         Check.due("to shelf 7", Texts.read(x, 7, "(a,b,c);"), 3);
         Check.due("shelves", x.count(0), 128);

@@ -52,6 +52,15 @@ final class Benches {
         return x;
     }
 
+    /** Of a tree whose kinds have these states, from a on. */
+    static int changesOf(String tree, String states) {
+        LineageBench x = withTrees(tree);
+        for (int k = 0; k < states.length(); k++) {
+            x.state(7, k, states.charAt(k) - '0');
+        }
+        return x.changes(0, 7);
+    }
+
     /** A full tape of blanks. */
     static LineageBench withFullTape() {
         LineageBench x = new LineageBench();

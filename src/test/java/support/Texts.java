@@ -26,6 +26,29 @@ final class Texts {
         return x.read(shelf);
     }
 
+    /** A text that is read. */
+    static void good(String text, int leaves) {
+        LineageBench x = new LineageBench();
+        Check.due("read of " + text, read(x, 0, text), leaves);
+        Check.due("fault(0) of " + text, x.fault(0), 0);
+        Check.due("fault(1) of " + text, x.fault(1), -1);
+        Check.due("fault(2) of " + text, x.fault(2), -1);
+        Check.due("fault(-1) of " + text, x.fault(-1), -1);
+        Check.due("shelves of " + text, x.count(0), 1);
+    }
+
+    /** A text with a fault; nothing comes of it, and the tape is used up. */
+    static void bad(String text, int fault, int place) {
+        LineageBench x = new LineageBench();
+        lay(x, text);
+        Check.badArgument("read of " + text, () -> x.read(0));
+        Check.due("fault(0) of " + text, x.fault(0), fault);
+        Check.due("fault(1) of " + text, x.fault(1), place);
+        Check.due("fault(2) of " + text, x.fault(2), -1);
+        Check.due("tape behind " + text, x.count(4), 0);
+        Check.due("shelves of " + text, x.count(0), 0);
+    }
+
     static String written(LineageBench x, int shelf) {
         int length = x.write(shelf);
         StringBuilder text = new StringBuilder();
