@@ -163,9 +163,9 @@ public final class RandomRunsTest {
 
     private void readText(String text, int shelf) {
         both("end", 0);
-        int[] numbers = Texts.numbersOf(text);
-        for (int i = 0; i < numbers.length; i += 5) {
-            both("feed", Arrays.copyOfRange(numbers, i, i + 5));
+        for (int i = 0; i < text.length(); i += 20) {
+            both("feed", Texts.four(text, i), Texts.four(text, i + 4), Texts.four(text, i + 8),
+                    Texts.four(text, i + 12), Texts.four(text, i + 16));
         }
         both("end", text.length());
         both("read", shelf);

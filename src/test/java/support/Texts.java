@@ -3,22 +3,22 @@ final class Texts {
     private Texts() {
     }
 
+    // README.md shows lay, four, read and written; ReadmeTest looks whether they are the same there
+
     /** The tape must be empty. */
     static void lay(LineageBench x, String text) {
-        int[] numbers = numbersOf(text);
-        for (int i = 0; i < numbers.length; i += 5) {
-            x.feed(numbers[i], numbers[i + 1], numbers[i + 2], numbers[i + 3], numbers[i + 4]);
+        for (int i = 0; i < text.length(); i += 20) {
+            x.feed(four(text, i), four(text, i + 4), four(text, i + 8), four(text, i + 12), four(text, i + 16));
         }
         x.end(text.length());
     }
 
-    static int[] numbersOf(String text) {
-        int feeds = (text.length() + 19) / 20;
-        int[] numbers = new int[feeds * 5];
-        for (int i = 0; i < text.length(); i++) {
-            numbers[i / 4] |= (text.charAt(i) & 255) << 8 * (3 - i % 4);
+    static int four(String text, int from) {
+        int number = 0;
+        for (int i = from; i < from + 4; i++) {
+            number = number << 8 | (i < text.length() ? text.charAt(i) & 255 : 0);
         }
-        return numbers;
+        return number;
     }
 
     static int read(LineageBench x, int shelf, String text) {
